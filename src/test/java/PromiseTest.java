@@ -88,7 +88,9 @@ public final class PromiseTest {
         storm();
         undo();
         images();
+        allIsBack();
         counts();
+        sixteenRows();
         end();
     }
 
@@ -311,6 +313,7 @@ public final class PromiseTest {
         due("store(4, 256)", x.store(4, 256), -3);
         due("store(4, -1)", x.store(4, -1), -3);
         due("store(4, 255)", x.store(4, 255), 0);
+        due("store(3, 0)", x.store(3, 0), 0);
         due("data(4, 0)", x.data(4, 0), 255);
         due("data(4, 1)", x.data(4, 1), 255);
         x.weak(0, 5);
@@ -392,15 +395,15 @@ public final class PromiseTest {
         String[] signs = {"", "q", "`", "A", " ", "a ", "a)", ")", "()", "(a", "(", "3", "03", "3)", "(3)", "(a3)", "a0b",
             "0", "00", "49a", "99a", "100a", "001a", "1a", "01a", "48a", "i", "2i", "aai", "((((a))))", "(((a)))",
             "(((a))(b))", "(((4(", "a(b(c(d(e", "48ab", "7(7a)", "48(48(48(48(", "48(48(48a))", "0(", "12", "123",
-            "a123b", "(a)3", "ab((c)", "49", "0)", "i(", "48ai", "48a0"};
+            "a123b", "(a)3", "a()", "(a1)", "a1", "(a))", "2(a)(", "ab((c)", "49", "0)", "i(", "48ai", "48a0"};
         int[] kinds = {1, 1, 1, 1, 1, 1, 1, 1, 1, 1, 1, 1, 1, 1, 1, 1, 2,
             2, 2, 2, 2, 2, 2, 0, 0, 0, 3, 3, 3, 4, 0,
             0, 4, 4, 5, 5, 4, 5, 2, 1, 2,
-            2, 1, 1, 2, 2, 3, 3, 2};
+            2, 1, 1, 1, 1, 1, 1, 1, 2, 2, 3, 3, 2};
         int[] at = {0, 0, 0, 0, 0, 1, 1, 0, 1, 2, 1, 1, 2, 1, 2, 3, 1,
             0, 0, 0, 0, 0, 0, -1, -1, -1, 0, 1, 2, 3, -1,
             -1, 4, 7, -1, -1, 11, -1, 0, 2, 0,
-            1, 4, 6, 0, 0, 0, 3, 3};
+            1, 4, 2, 3, 2, 3, 5, 6, 0, 0, 0, 3, 3};
         for (int i = 0; i < signs.length; i++) {
             RowGuard x = of(8);
             int got = pattern(x, signs[i]);
@@ -442,6 +445,13 @@ public final class PromiseTest {
     private static void patternRoom() {
         part = "promise 8, room";
         RowGuard x = of(8);
+        due("a number without a PART", pattern(x, "3"), -31);
+        due("it is forgotten", pattern(x, "a"), 1);
+        due("no byte behind a PATTERN", x.pattern(0), -31);
+        due("an open one", pattern(x, "2(a"), -31);
+        due("it is forgotten", pattern(x, "(ab)c"), 4);
+        same("waiting", waiting(x), "aabc");
+        x.undo(2);
         x.ask(0, 46);
         due("48", pattern(x, "2b"), 48);
         due("49", pattern(x, "b"), -4);
@@ -452,6 +462,8 @@ public final class PromiseTest {
         due("a FAULT comes first", pattern(x, "b)"), -31);
         due("more than 48 in all", pattern(x, "48ba"), -35);
         due("count(7)", x.count(7), 3);
+        x.drop();
+        due("48 at most", pattern(x, "48a"), 48);
     }
 
     private static void faults() {
@@ -511,6 +523,8 @@ public final class PromiseTest {
         due("pair(3, 1, 44)", x.pair(3, 1, 44), -4);
         due("pair(1, 1, 44)", x.pair(1, 1, 44), -3);
         due("pair(3, 1, 43)", x.pair(3, 1, 43), 48);
+        x.drop();
+        due("pair(3, 1, 48)", x.pair(3, 1, 48), 48);
     }
 
     private static void drops() {
@@ -674,6 +688,14 @@ public final class PromiseTest {
         same("queue", inQueue(x), "e");
         x.tick(1);
         due("then the latest was none of the QUEUE", x.told(0), 3);
+        x = of(5, STEP, 99, REACH, 2, LIMIT, 2);
+        x.ask(2, 1);
+        x.tick(1);
+        due("one PLACE off", x.told(3), 2);
+        x.ask(2, 1);
+        x.tick(1);
+        due("then those two PLACES off", x.told(3), 4);
+        due("but ROW 2", x.count(8), 27);
         x = of(5, STEP, 1, HALF, 1, REACH, 2);
         x.ask(2, 1);
         x.tick(1);
@@ -835,7 +857,9 @@ public final class PromiseTest {
         part = "promise 18, the SKETCH";
         RowGuard x = of(8, GUARD, 3, SIZE, 3, STEP, 2, QUEUE, 8, LIMIT, 999);
         pattern(x, "abde");
-        x.tick(4);
+        x.tick(2);
+        due("b has 1 and 2", x.told(4), 0);
+        x.tick(2);
         due("0 and 3 modulo 3", x.slot(0, 0), 2);
         due("1 and 4 modulo 3", x.slot(1, 0), 2);
         due("none", x.slot(2, 0), 0);
@@ -1051,6 +1075,10 @@ public final class PromiseTest {
         due("most(1)", x.most(1), 6);
         due("it did", x.most(2), 0);
         x.refresh(2);
+        x.ask(0, 3);
+        x.tick(3);
+        due("of ROWS 1 and 4", x.most(0), 1);
+        x.refresh(1);
         due("most(0)", x.most(0), 4);
         x.refresh(4);
         due("most(2)", x.most(2), 5);
@@ -1117,6 +1145,17 @@ public final class PromiseTest {
         due("by a REFRESHING, too", x.told(6), 5);
         due("LOST it was", x.told(8), 1);
         due("count(27)", x.count(27), 4);
+        x.weak(0, 7);
+        x.ask(1, 1);
+        x.tick(3);
+        due("another one is LOST", x.count(27), 5);
+        due("told(8)", x.told(8), 2);
+        x.begin(5);
+        due("LOST no more", x.count(27), 0);
+        x.weak(2, 3);
+        x.ask(1, 1);
+        x.tick(9);
+        due("LOST once", x.told(8), 1);
         x.weak(2, 1);
         x.terms(STEP, 99);
         x.ask(1, 1);
@@ -1173,6 +1212,7 @@ public final class PromiseTest {
         due("two each", x.hammer(3, 7, 0), 14);
         due("from both sides", x.hammer(3, 7, 1), 14);
         due("98, then the STEP", x.hammer(3, 98, 0), 196);
+        due("99", x.hammer(3, 99, 0), 198);
         due("at an end one alone", x.hammer(0, 9, 1), 18);
         due("at the other", x.hammer(5, 9, 1), 18);
         due("nothing changes", x.count(2) + x.count(1) + x.told(0), 0);
@@ -1211,6 +1251,9 @@ public final class PromiseTest {
         due("breaks(0, 2)", x.breaks(0, 2), -2);
         due("breaks(0, -1)", x.breaks(0, -1), -2);
         due("10 times 2", x.breaks(3, 0), 10);
+        x.terms(LIMIT, 1);
+        due("1", x.breaks(3, 0), 1);
+        x.terms(LIMIT, 20);
         due("both sides", x.breaks(3, 1), 10);
         x.terms(LIMIT, 198);
         due("99", x.breaks(3, 0), 99);
@@ -1303,6 +1346,10 @@ public final class PromiseTest {
         due("none by LIMIT 2", x.sure(1), -1);
         x.terms(LIMIT, 999);
         due("any by LIMIT 999", x.sure(4), 1);
+        x.begin(6);
+        due("six ROWS", x.sure(1), 1);
+        x.begin(7);
+        due("seven ROWS", x.sure(1), -5);
         x = of(4, STEP, 1, LIMIT, 4);
         x.ask(1, 1);
         x.tick(1);
@@ -1336,12 +1383,42 @@ public final class PromiseTest {
         due("BLOCK takes 3 TICKS", x.choice(17, 3), 5);
         x.terms(CHANCE, 0);
         due("CHANCE 3 as well", x.choice(17, 3), 2);
+        due("none but BLOCK has 20 wait", x.choice(17, 20), 2);
+        x.terms(CHANCE, 100);
+        x.terms(LIMIT, 999);
+        due("BLOCK has 20 wait, by CHANCE 100 they take long", x.choice(17, 20), choiceByHand(20));
+        x.terms(LIMIT, 5);
+        x.terms(CHANCE, 0);
         x.terms(LIMIT, 4);
         pattern(x, "ab");
         x.tick(5);
         due("EMPTY, as it was one of them", x.choice(17, 3), 0);
         due("the GUARD stays", x.row(0, 5), 1);
         due("count(12)", x.count(12), 0);
+    }
+
+    /** By STEP 1, CHANCE 100, LIMIT 999 from seed 17: the fewest TICKS till REQUESTS and QUEUE are through. */
+    private static int choiceByHand(int n) {
+        int best = -1;
+        int fewest = 501;
+        for (int guard = 0; guard < 6; guard++) {
+            RowGuard x = of(5, STEP, 1, CHANCE, 100, LIMIT, 999, GUARD, guard);
+            int draw = 17;
+            for (int i = 0; i < n; i++) {
+                x.ask(draw % 5, 1);
+                draw = (421 * draw + 1663) % 7875;
+            }
+            int ticks = 0;
+            while (ticks < 500 && x.count(2) + x.count(3) + x.count(5) > 0) {
+                x.tick(1);
+                ticks++;
+            }
+            if (ticks < fewest) {
+                best = guard;
+                fewest = ticks;
+            }
+        }
+        return best;
     }
 
     private static void attack() {
@@ -1354,6 +1431,11 @@ public final class PromiseTest {
         due("attack(21)", x.attack(21), -3);
         due("ROW 2 by b, b, b, d, d", x.attack(4), 10);
         due("b, b, b", x.attack(2), 6);
+        x.ask(3, 3);
+        x.tick(3);
+        due("c has 6 and comes to 16 by b, b, b, d, d", x.attack(4), 16);
+        due("c has 6 and comes to 12 by b, b, b", x.attack(2), 12);
+        x.begin(5);
         due("b, b, b, no ROW", x.attack(5), -31);
         due("no number's end", x.attack(3), -31);
         due("no FAULT is kept", x.fault(0), 0);
@@ -1384,6 +1466,8 @@ public final class PromiseTest {
         due("by(0, 0)", x.by(0, 0), -3);
         due("by(5, 6)", x.by(5, 6), -3);
         due("by(5, 5)", x.by(5, 5), -5);
+        x.begin(6);
+        due("six ROWS", x.by(5, 1), 2);
         x = of(4, STEP, 2, CHANCE, 0);
         due("TABLE", x.by(0, 4), 6);
         due("EACH: a, c, a", x.by(1, 4), 6);
@@ -1411,6 +1495,9 @@ public final class PromiseTest {
         // by STEP 4 a ROW is REFRESHED at 8; from two sides, each COUNT 1 to 2, 3 and 3 bring 12, so STEP 2
         due("two sides bring 10 by three and two", x.coarse(30), 2);
         due("four REQUESTS bring 8 at most", x.coarse(4), 99);
+        x.terms(LIMIT, 6);
+        due("by STEP 2 two sides bring 6", x.coarse(30), 1);
+        x.terms(LIMIT, 10);
         due("five of one ROW: 10", x.coarse(5), 2);
         x.terms(LIMIT, 2);
         due("NONE", x.coarse(1), -1);
@@ -1481,7 +1568,11 @@ public final class PromiseTest {
         due("storm(0, 49, 0)", x.storm(0, 49, 0), -3);
         due("storm(0, 1, 3)", x.storm(0, 1, 3), -2);
         due("storm(0, 1, -1)", x.storm(0, 1, -1), -2);
+        // 0, 1663, 911 modulo 5 are a, d, b: c has 4
+        due("PEAK of a, d", x.storm(0, 2, 0), 2);
+        due("PEAK of a, d, b", x.storm(0, 3, 0), 4);
         // 17, 945, 5758 modulo 5 are c, a, d: b has 4, c 2
+        due("PEAK of c, a", x.storm(17, 2, 0), 4);
         due("PEAK", x.storm(17, 3, 0), 4);
         due("TICKS", x.storm(17, 3, 1), 3);
         due("FIRES", x.storm(17, 3, 2), 0);
@@ -1489,6 +1580,21 @@ public final class PromiseTest {
         // c has b, d REFRESHED; a has b; d has c, e, unless d is spilled: slots c, a, then SPILL 1
         due("TICKS with the QUEUE's", x.storm(17, 3, 1), 6);
         due("FIRES", x.storm(17, 3, 2), 2);
+        x.terms(OPENS, 3);
+        x.terms(NEAR, 4);
+        due("a and its neighbour", x.storm(0, 1, 1), 7);
+        due("c and its two", x.storm(17, 1, 1), 11);
+        x.terms(NEAR, 1);
+        due("the last of the QUEUE", x.storm(0, 1, 1), 4);
+        x.ask(0, 1);
+        x.tick(4);
+        due("told(4)", x.told(4), 1);
+        due("FIRES of this one alone", x.storm(0, 1, 2), 1);
+        x.terms(GUARD, 5);
+        x.terms(WINDOW, 999);
+        due("500 at most", x.storm(17, 48, 1), 500);
+        x.begin(5);
+        x.terms(OPENS, 1);
         x.terms(GUARD, 2);
         x.terms(CHANCE, 50);
         // behind one DRAW from 17 x is 945, and 45 is below 50; on paper only
@@ -1613,6 +1719,134 @@ public final class PromiseTest {
         x.begin(4);
         x.restore(1);
         due("TIME", x.count(1), 11);
+    }
+
+    /** All answers that tell how it is, THE TAPE, the FAULT and what can be UNDONE aside. */
+    private static String state(RowGuard x) {
+        StringBuilder all = new StringBuilder();
+        for (int k = 0; k <= 27; k++) {
+            all.append(k == 7 || k == 9 ? 0 : x.count(k)).append(' ');
+        }
+        for (int r = 0; r < 16; r++) {
+            for (int what = 0; what <= 6; what++) {
+                all.append(x.row(r, what)).append(' ').append(x.data(r, what)).append(' ');
+            }
+            all.append(x.at(r)).append(' ').append(x.slot(r, 0)).append(' ').append(x.slot(r, 1)).append(' ');
+            all.append(x.told(r)).append(' ').append(x.spent(r)).append(' ').append(x.often(r + 1)).append(' ');
+        }
+        all.append(x.spill()).append(' ').append(x.missed()).append(' ').append(x.most(1)).append(' ');
+        all.append(waiting(x)).append(' ').append(inQueue(x)).append(' ').append(x.done(2));
+        return all.toString();
+    }
+
+    /** What comes of it by some more calls, so that what no call tells is seen, too. */
+    private static String future(RowGuard x) {
+        StringBuilder all = new StringBuilder(state(x));
+        for (int i = 0; i < 12; i++) {
+            x.ask(i * 5 % 6, 2);
+            x.tick(3);
+            all.append(state(x));
+        }
+        return all.toString();
+    }
+
+    private static RowGuard busy(int guard, int turns) {
+        RowGuard x = new RowGuard();
+        x.begin(6);
+        int[][] told = {{LIMIT, 5}, {REACH, 2}, {GUARD, guard}, {SIZE, 3}, {STEP, 2}, {WINDOW, 30}, {OPENS, 2},
+            {EVERY, 7}, {TAKES, 3}, {MANY, 2}, {NEAR, 2}, {QUEUE, 2}, {LATE, 2}, {CHANCE, 40}, {KNOWS, 0}, {HALF, 1},
+            {SCRUB, 2}};
+        for (int[] t : told) {
+            x.terms(t[0], t[1]);
+        }
+        x.weak(1, 7);
+        x.weak(3, 200);
+        x.swap(1, 4);
+        x.store(2, 90);
+        for (int i = 0; i < turns; i++) {
+            x.ask(i * i % 6, 3);
+            x.pair(i % 6, (i + 2) % 6, 3);
+            x.tick(5);
+        }
+        return x;
+    }
+
+    private static void upset(RowGuard x) {
+        x.begin(16);
+        for (int k = 0; k < 17; k++) {
+            x.terms(k, RANGE[k][k % 2 == 0 ? 2 : 0]);
+        }
+        x.pair(1, 9, 20);
+        x.swap(2, 13);
+        x.store(5, 77);
+        x.tick(33);
+    }
+
+    private static void allIsBack() {
+        part = "promises 42 to 44, all of it";
+        for (int guard = 0; guard <= 5; guard++) {
+            for (int turns = 1; turns <= 7; turns += 2) {
+                String due = future(busy(guard, turns));
+                RowGuard x = busy(guard, turns);
+                String ahead = state(x);
+                x.image(1);
+                upset(x);
+                due("restore(1)", x.restore(1), 0);
+                same("state", state(x), ahead);
+                same("what comes of it", future(x), due);
+                x = busy(guard, turns);
+                x.begin(9);
+                x.terms(GUARD, 1);
+                x.ask(8, 9);
+                x.tick(40);
+                due("undo(4)", x.undo(4), 6);
+                same("state", state(x), ahead);
+                same("what comes of it", future(x), due);
+                x = busy(guard, turns);
+                x.hammer(1, 9, 0);
+                x.breaks(1, 1);
+                x.worst(2);
+                x.by(4, 2);
+                x.fewest();
+                x.sure(2);
+                x.coarse(3);
+                x.small(3);
+                x.choice(5, 9);
+                x.storm(6, 9, 0);
+                same("on paper nothing changes", future(x), due);
+                x = busy(guard, turns);
+                x.begin(6);
+                String anew = future(x);
+                x.begin(9);
+                x.begin(6);
+                same("begin() leaves nothing", future(x), anew);
+            }
+        }
+    }
+
+    private static void sixteenRows() {
+        part = "sixteen ROWS";
+        RowGuard x = of(16, STEP, 2, LIMIT, 8, REACH, 2, QUEUE, 8);
+        x.ask(15, 3);
+        x.ask(0, 2);
+        x.tick(5);
+        due("often(2)", x.often(2), 0x8001);
+        due("missed()", x.missed(), 0);
+        x.terms(GUARD, 2);
+        due("missed()", x.missed(), 0x8001);
+        due("most(0)", x.most(0), 14);
+        due("PEAK at the end", x.hammer(15, 1, 0), 8);
+        due("the one beside it", x.hammer(15, 1, 1), 6);
+        due("coarse(1)", x.coarse(1), -1);
+        due("small(1)", x.small(1), -1);
+        x.begin(16);
+        due("coarse(3)", x.coarse(3), 99);
+        due("small(3)", x.small(3), 1);
+        x.swap(15, 0);
+        due("row(15, 0)", x.row(15, 0), 0);
+        x.ask(15, 1);
+        x.tick(1);
+        due("at PLACE 0", x.row(1, 1), 2);
     }
 
     private static void counts() {
