@@ -461,14 +461,15 @@ public final class RowGuard {
             return BAD_NUMBER;
         }
         int best = 0;
-        int fewestFlips = Integer.MAX_VALUE;
-        int fewestTicks = Integer.MAX_VALUE;
+        int fewestFlips = 0;
+        int fewestTicks = 0;
         for (int kind = 0; kind < GUARD_KINDS; kind++) {
             paper.take(now);
             paper.base.setTermAndEmpty(GUARD, kind);
             paper.runStorm(seed, n);
             int flips = paper.moreFlips();
-            if (flips < fewestFlips || (flips == fewestFlips && paper.ticks < fewestTicks)) {
+            boolean isBetter = flips < fewestFlips || (flips == fewestFlips && paper.ticks < fewestTicks);
+            if (kind == 0 || isBetter) {
                 best = kind;
                 fewestFlips = flips;
                 fewestTicks = paper.ticks;
@@ -1146,12 +1147,11 @@ public final class RowGuard {
         private void queueNeighbours(int r) {
             boolean byPlace = term[KNOWS] == 1;
             int middle = byPlace ? rows.placeOf[r] : r;
-            for (int off = 1; off <= term[REACH]; off++) {
-                for (int side = -off; side <= off; side += 2 * off) {
-                    int spot = middle + side;
-                    if (rows.has(spot)) {
-                        queue.join(byPlace ? rows.rowAt[spot] : spot);
-                    }
+            for (int turn = 0; turn < 2 * term[REACH]; turn++) {
+                int off = turn / 2 + 1;
+                int spot = turn % 2 == 0 ? middle - off : middle + off;
+                if (rows.has(spot)) {
+                    queue.join(byPlace ? rows.rowAt[spot] : spot);
                 }
             }
         }
@@ -1356,7 +1356,7 @@ public final class RowGuard {
         }
     }
 
-    /** Reads a PATTERN: the ROWS of its REQUESTS, or its FAULT. */
+    /** Reads a PATTERN: the ROWS of its REQUESTS, or its FAULT; it may end or close just behind a whole PART. */
     private static final class Reader {
         private final int[] found = new int[MOST_WAITING];
         private final int[] openStart = new int[MOST_OPEN];
@@ -1365,7 +1365,9 @@ public final class RowGuard {
         private int faultKind;
         private int faultPlace;
         private int open;
-        private int times;
+        private int digits;
+        private int digitsStart;
+        private int number;
         private boolean afterPart;
         private boolean tooMany;
 
@@ -1374,28 +1376,19 @@ public final class RowGuard {
             faultKind = 0;
             faultPlace = NONE;
             open = 0;
-            times = 0;
+            forgetNumber();
             afterPart = false;
             tooMany = false;
-            int i = 0;
-            while (i < n && i < TAPE_BYTES && faultKind == 0) {
-                if (isDigit(bytes[i])) {
-                    i = readNumber(bytes, i, n);
+            for (int i = 0; i < n && i < TAPE_BYTES && faultKind == 0; i++) {
+                if (bytes[i] >= '0' && bytes[i] <= '9') {
+                    readDigit(bytes[i] - '0', i);
                 } else {
                     readSign(bytes[i], i, rowCount);
-                    i++;
                 }
             }
-            if (faultKind == 0 && (open > 0 || times > 0 || !afterPart)) {
-                fail(CANNOT_STAND, n);
+            if (faultKind == 0) {
+                readEnd(n);
             }
-            if (faultKind == 0 && tooMany) {
-                fail(TOO_MANY, NONE);
-            }
-        }
-
-        private boolean isDigit(int sign) {
-            return sign >= '0' && sign <= '9';
         }
 
         private void fail(int kind, int place) {
@@ -1403,23 +1396,28 @@ public final class RowGuard {
             faultPlace = place;
         }
 
-        /** Takes all digits at once, and answers the place behind them. */
-        private int readNumber(int[] bytes, int start, int n) {
-            int value = 0;
-            int i = start;
-            while (i < n && i < TAPE_BYTES && isDigit(bytes[i])) {
-                value = Math.min(1000, value * 10 + bytes[i] - '0');
-                i++;
+        private void forgetNumber() {
+            digits = 0;
+            number = 0;
+        }
+
+        private void readDigit(int digit, int place) {
+            if (digits == 0) {
+                digitsStart = place;
             }
-            if (i - start > 2 || value < 1 || value > 48) {
-                fail(BAD_COUNT, start);
-            }
-            times = value;
-            return i;
+            digits++;
+            number = Math.min(1000, number * 10 + digit);
+            afterPart = false;
+        }
+
+        private boolean isBadNumber() {
+            return digits > 0 && (digits > 2 || number < 1 || number > MOST_WAITING);
         }
 
         private void readSign(int sign, int place, int rowCount) {
-            if (sign >= 'a' && sign <= 'p') {
+            if (isBadNumber()) {
+                fail(BAD_COUNT, digitsStart);
+            } else if (sign >= 'a' && sign <= 'p') {
                 readLetter(sign - 'a', place, rowCount);
             } else if (sign == '(') {
                 openGroup(place);
@@ -1430,16 +1428,26 @@ public final class RowGuard {
             }
         }
 
+        private void readEnd(int place) {
+            if (isBadNumber()) {
+                fail(BAD_COUNT, digitsStart);
+            } else if (open > 0 || !afterPart) {
+                fail(CANNOT_STAND, place);
+            } else if (tooMany) {
+                fail(TOO_MANY, NONE);
+            }
+        }
+
         private void readLetter(int r, int place, int rowCount) {
             if (r >= rowCount) {
                 fail(NO_ROW, place);
                 return;
             }
-            int repeats = Math.max(1, times);
+            int repeats = Math.max(1, number);
             for (int i = 0; i < repeats; i++) {
                 put(r);
             }
-            times = 0;
+            forgetNumber();
             afterPart = true;
         }
 
@@ -1449,14 +1457,14 @@ public final class RowGuard {
                 return;
             }
             openStart[open] = length;
-            openTimes[open] = Math.max(1, times);
+            openTimes[open] = Math.max(1, number);
             open++;
-            times = 0;
+            forgetNumber();
             afterPart = false;
         }
 
         private void closeGroup(int place) {
-            if (open == 0 || times > 0 || !afterPart) {
+            if (open == 0 || !afterPart) {
                 fail(CANNOT_STAND, place);
                 return;
             }

@@ -12,7 +12,7 @@ public final class LanguageTest {
     private static final String[] RULED_OUT = {"\\bthrow\\b", "\\btry\\b", "\\bcatch\\b", "\\bsynchronized\\b",
         "\\bassert\\b", "\\bpackage\\b", "->", "::", "\\bNaN\\b", "\\bfloat\\b", "\\bdouble\\b", "Exact\\(",
         "\\bThread\\b", "\\bSystem\\.(?!arraycopy)", "\\bObject\\b", "\\bprotected\\b", "\\bvar\\b", "\\bRandom\\b",
-        "new int\\[[^\\]]*[a-z][^\\]]*\\]", "[^\\x00-\\x7f]", "while \\(true\\)", "for \\(;;", "\\.clone\\("};
+        "new int\\[[^\\]]*[a-z][^\\]]*\\]", "[^\\x00-\\x7f]", "while \\(true\\)", "for \\(;;", "\\.clone\\(", "MAX_VALUE", "MIN_VALUE"};
     private static final int LONGEST_METHOD = 60;
     private static final Pattern HEAD = Pattern.compile(
         "^ +(public|private)( static)?( final)? [a-zA-Z\\[\\]]+ ?([a-zA-Z]*)\\(([^)]*)\\) \\{$");
