@@ -637,7 +637,6 @@ public final class RowGuard {
             n = rowCount;
             flipped = 0;
             lost = 0;
-            peak = 0;
             Arrays.fill(disturbed, 0);
             Arrays.fill(opened, 0);
             Arrays.fill(openedEver, 0);
@@ -654,7 +653,6 @@ public final class RowGuard {
             n = other.n;
             flipped = other.flipped;
             lost = other.lost;
-            peak = other.peak;
             System.arraycopy(other.placeOf, 0, placeOf, 0, MOST_ROWS);
             System.arraycopy(other.rowAt, 0, rowAt, 0, MOST_ROWS);
             System.arraycopy(other.disturbed, 0, disturbed, 0, MOST_ROWS);

@@ -2,7 +2,9 @@ import java.nio.file.Files;
 import java.nio.file.Path;
 import java.util.ArrayList;
 import java.util.List;
+import java.util.Map;
 import java.util.Set;
+import java.util.TreeMap;
 import java.util.TreeSet;
 import java.util.regex.Matcher;
 import java.util.regex.Pattern;
@@ -14,6 +16,9 @@ public final class LanguageTest {
         "\\bThread\\b", "\\bSystem\\.(?!arraycopy)", "\\bObject\\b", "\\bprotected\\b", "\\bvar\\b", "\\bRandom\\b",
         "new int\\[[^\\]]*[a-z][^\\]]*\\]", "[^\\x00-\\x7f]", "while \\(true\\)", "for \\(;;", "\\.clone\\(", "MAX_VALUE", "MIN_VALUE"};
     private static final int LONGEST_METHOD = 60;
+    private static final int DEEPEST_CALLS = 8;
+    private static final int MOST_FIELDS = 20;
+    private static final Pattern CALL = Pattern.compile("\\b([a-z][a-zA-Z]*)\\(");
     private static final Pattern HEAD = Pattern.compile(
         "^ +(public|private)( static)?( final)? [a-zA-Z\\[\\]]+ ?([a-zA-Z]*)\\(([^)]*)\\) \\{$");
 
@@ -33,6 +38,7 @@ public final class LanguageTest {
         ruledOut(code.toString());
         classes(code.toString());
         methods(lines);
+        fields(lines);
         if (wrong != 0) {
             System.exit(1);
         }
@@ -75,6 +81,7 @@ public final class LanguageTest {
 
     private static void methods(List<String> lines) {
         Set<String> open = new TreeSet<>();
+        Map<String, Set<String>> calls = new TreeMap<>();
         List<String> hidden = new ArrayList<>();
         for (int i = 0; i < lines.size(); i++) {
             Matcher m = HEAD.matcher(lines.get(i));
@@ -94,6 +101,11 @@ public final class LanguageTest {
             if (end - i > LONGEST_METHOD) {
                 tell(m.group(4) + " has " + (end - i) + " lines");
             }
+            Set<String> called = calls.computeIfAbsent(m.group(4), name -> new TreeSet<>());
+            Matcher call = CALL.matcher(String.join("\n", lines.subList(i + 1, end)));
+            while (call.find()) {
+                called.add(call.group(1));
+            }
             if (m.group(5).split(",").length > 7) {
                 tell(m.group(4) + " takes too many");
             }
@@ -105,6 +117,39 @@ public final class LanguageTest {
         for (String name : hidden) {
             if (open.contains(name)) {
                 tell("a private method bears the name " + name);
+            }
+        }
+        for (String name : open) {
+            depth(name, calls, new ArrayList<>());
+        }
+    }
+
+    /** Methods of one name count as one, and one that calls its own name as no call (copyFrom() of parts). */
+    private static void depth(String name, Map<String, Set<String>> calls, List<String> above) {
+        List<String> all = new ArrayList<>(above);
+        all.add(name);
+        if (above.contains(name) || all.size() > DEEPEST_CALLS) {
+            tell("calls too deep, or a recursion: " + all);
+            return;
+        }
+        for (String called : calls.get(name)) {
+            if (calls.containsKey(called) && !called.equals(name)) {
+                depth(called, calls, all);
+            }
+        }
+    }
+
+    private static void fields(List<String> lines) {
+        int found = 0;
+        for (String line : lines) {
+            if (line.contains(" class ")) {
+                found = 0;
+            }
+            if (line.matches(" +private (final )?[a-zA-Z\\[\\]]+ [a-zA-Z]+( = .*)?;")) {
+                found++;
+            }
+            if (found > MOST_FIELDS) {
+                tell("too many fields: " + line);
             }
         }
     }

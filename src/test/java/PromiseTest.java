@@ -17,7 +17,8 @@ public final class PromiseTest {
     private static final int KNOWS = 14;
     private static final int HALF = 15;
     private static final int SCRUB = 16;
-    private static final int[][] RANGE = {{1, 24, 999}, {1, 1, 2}, {0, 0, 5}, {1, 2, 8}, {1, 4, 99}, {4, 64, 999},
+    /** Of each TERM the least, what it is at first, the greatest. */
+    static final int[][] RANGE = {{1, 24, 999}, {1, 1, 2}, {0, 0, 5}, {1, 2, 8}, {1, 4, 99}, {4, 64, 999},
         {1, 1, 9}, {4, 16, 99}, {1, 1, 9}, {1, 1, 8}, {1, 1, 9}, {1, 1, 8}, {0, 0, 8}, {0, 10, 100}, {0, 1, 1},
         {0, 0, 1}, {0, 0, 2}};
 
@@ -111,10 +112,7 @@ public final class PromiseTest {
     }
 
     private static int feed(RowGuard x, String signs) {
-        int[] a = new int[5];
-        for (int i = 0; i < 20; i++) {
-            a[i / 4] = a[i / 4] << 8 | (i < signs.length() ? signs.charAt(i) & 255 : 0);
-        }
+        int[] a = Calls.bytesOf(signs);
         return x.feed(a[0], a[1], a[2], a[3], a[4]);
     }
 
