@@ -369,6 +369,7 @@ public final class RowGuard {
     }
 
     public int least() {
+        // SPILL comes to STEP when all slots did: by STEP times (SIZE and 1) REQUESTS, not by fewer.
         return could() / Math.max(1, now.term[STEP]);
     }
 
